@@ -122,6 +122,11 @@ public final class PromiseTests {
         due("written", x.written(), 4);
         x.undo();
         due("undone", look(x), "a^|cdb");
+        x.goTo(3);
+        x.swap();
+        due("mark ahead", look(x), "a^cbd|");
+        x.undo();
+        due("undone again", look(x), "a^cd|b");
     }
 
     static void promise5() {
@@ -135,16 +140,20 @@ public final class PromiseTests {
         x.goTo(5);
         due("from within", x.greaten(), 1);
         due("look", look(x), "AB `cZ9D|{ e");
-        due("a and z", greatened("az"), "AZ|");
-        due("no word", greatened("-- {`"), "-- {`|");
-        due("at the end", greatened(""), "|");
+        due("a and z", greatened("az"), "^AZ|");
+        due("no word", greatened("-- {`"), "^-- {`|");
+        due("at the end", greatened(""), "^|");
         due("written", x.written(), 11);
     }
 
     private static String greatened(String text) {
         DragonRing x = Checks.scroll(text, 0);
+        x.mark();
         due("letters of " + text, x.greaten(), text.replaceAll("[^a-z]", "").length());
-        return look(x);
+        String then = look(x);
+        x.undo();
+        due("undone", look(x), "^|" + text);
+        return then;
     }
 
     // going
@@ -160,6 +169,10 @@ public final class PromiseTests {
         }
         x.undo();
         due("undone", x.point(), 0);
+        x.goTo(2);
+        x.goTo(1);
+        x.undo();
+        due("undone again", look(x), "ab|c");
         due("in an empty scroll", new DragonRing().goTo(0), 0);
     }
 
@@ -252,6 +265,8 @@ public final class PromiseTests {
         for (int lines : new int[] {-1, 4}) {
             Checks.noState("goLines(" + lines + ")", x, () -> x.goLines(lines));
         }
+        DragonRing z = Checks.scroll("\na", 2);
+        due("up to an empty first line", z.goLines(-1), 0);
         DragonRing y = Checks.scroll("\n".repeat(51), 51);
         due("up 50", y.goLines(-50), 1);
         due("down 50", y.goLines(50), 51);
@@ -280,6 +295,10 @@ public final class PromiseTests {
         due("exchange", x.exchange(), 3);
         x.undo();
         due("undone", look(x), "a|bc^");
+        x.goTo(2);
+        x.exchange();
+        x.undo();
+        due("undone again", look(x), "ab|c^");
     }
 
     static void promise14() {
@@ -304,6 +323,10 @@ public final class PromiseTests {
         due("all", x.find(), 0);
         x.append('a');
         Checks.noState("find what is longer", x, x::find);
+        Checks.buffer(x, "cb");
+        Checks.noState("find what is like it but for the first", x, x::find);
+        Checks.buffer(x, "ac");
+        Checks.noState("find what is like it but for the last", x, x::find);
         DragonRing y = new DragonRing();
         y.append('a');
         Checks.noState("find in an empty scroll", y, y::find);
@@ -354,6 +377,8 @@ public final class PromiseTests {
         due("killed", x.killed(), 8);
         x.undo();
         due("undone", look(x) + Checks.hoards(x), "|d>--ab, c");
+        x.undo();
+        due("undone again", look(x) + Checks.hoards(x), "--|d>ab, c");
         DragonRing y = Checks.scroll("ab cd", 2);
         Checks.markAndGo(y, 4, 2);
         y.killBack();
@@ -699,6 +724,12 @@ public final class PromiseTests {
         Checks.perform(x, "pm");
         due("can turn behind m", x.canTurnYank(), false);
         due("saved", x.savedStates(), 6);
+        x.yank();
+        Checks.buffer(x, "mar99");
+        Checks.noArgument("perform no text", x, x::perform);
+        Checks.buffer(x, "m9f");
+        Checks.noState("perform behind yank", x, x::perform);
+        due("can turn as before", x.canTurnYank(), true);
     }
 
     // snapshots, undo
@@ -779,6 +810,7 @@ public final class PromiseTests {
         }
         due("six states back", look(x), "ab|");
         Checks.noState("undo of one more", x, x::undo);
+        refusedBetween();
         due("the buffer stays", x.clearBuffer(), 1);
         x.goBack(0);
         due("the slot stays", look(x), "abcdefgh|");
@@ -799,6 +831,22 @@ public final class PromiseTests {
         x.undo();
         x.undo();
         due("accounts", x.killed() + " " + x.yanked() + " " + x.written() + " " + x.hoards(), "0 0 8 0");
+    }
+
+    /** A call that throws leaves the saved states as they are. */
+    private static void refusedBetween() {
+        DragonRing x = new DragonRing();
+        Checks.write(x, "abcdefg");
+        x.append('q');
+        Checks.noState("exchange", x, x::exchange);
+        Checks.noArgument("write(9)", x, () -> x.write(9));
+        Checks.noArgument("perform", x, x::perform);
+        Checks.buffer(x, "a9f");
+        Checks.noState("perform what is not possible", x, x::perform);
+        for (int i = 6; i >= 1; i--) {
+            x.undo();
+            due("look", look(x), "abcdefg".substring(0, i) + "|");
+        }
     }
 
     static void promise31() {
@@ -999,6 +1047,10 @@ public final class PromiseTests {
             Checks.noIndex("codeIn(0, " + far + ")", x, () -> x.codeIn(0, far));
         }
         Checks.noIndex("codeIn(-1, 0)", x, () -> x.codeIn(-1, 0));
+        x.changeCaves(1);
+        Checks.noIndex("codeIn(1, 0) of a lost one", x, () -> x.codeIn(1, 0));
+        x.undo();
+        due("codeIn(1, 0) of one that is back", x.codeIn(1, 0), (int) 'a');
     }
 
     static void promise48() {
@@ -1044,6 +1096,41 @@ public final class PromiseTests {
         due("behind killBetween", x.isGrowing(), true);
         x.turn(0);
         due("behind turn", x.isGrowing(), false);
+        for (String deed : OTHERS) {
+            DragonRing y = behindKilling();
+            due("growing ahead of " + deed, y.isGrowing(), true);
+            other(y, deed);
+            due("growing behind " + deed, y.isGrowing(), false);
+        }
+    }
+
+    private static final String[] OTHERS = {
+        "'a", "n", "_", "u", "s", "g", "f", "b", "F", "B", "a", "e", "m", "x", "c", "t",
+        "goTo", "goLines", "find", "changeCaves", "turn", "undo", "goBack"};
+
+    /** A scroll in which each deed that is no killing is possible, a killing the latest one. */
+    private static DragonRing behindKilling() {
+        DragonRing x = Checks.scroll("ab cd\nef gh", 0);
+        x.mark();
+        x.keep(0);
+        x.goTo(3);
+        x.killWord();
+        return x;
+    }
+
+    /** Does a deed that is neither killing nor yanking: by its letters, or by its method's name. */
+    private static void other(DragonRing x, String deed) {
+        x.append('f');
+        switch (deed) {
+            case "goTo" -> x.goTo(x.point());
+            case "goLines" -> x.goLines(1);
+            case "find" -> x.find();
+            case "changeCaves" -> x.changeCaves(5);
+            case "turn" -> x.turn(0);
+            case "undo" -> x.undo();
+            case "goBack" -> x.goBack(0);
+            default -> Checks.perform(x, deed);
+        }
     }
 
     static void promise50() {
@@ -1061,9 +1148,13 @@ public final class PromiseTests {
         due("behind what was thrown", x.canTurnYank(), true);
         x.killBack();
         due("behind killBack", x.canTurnYank(), false);
-        x.yank();
-        x.goTo(x.point());
-        due("behind goTo", x.canTurnYank(), false);
+        for (String deed : OTHERS) {
+            DragonRing y = behindKilling();
+            y.yank();
+            due("can turn ahead of " + deed, y.canTurnYank(), true);
+            other(y, deed);
+            due("can turn behind " + deed, y.canTurnYank(), false);
+        }
     }
 
     static void promise51() {
