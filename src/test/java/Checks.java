@@ -2,16 +2,13 @@ import java.util.ArrayList;
 import java.util.List;
 
 /** What the tests share: counting what is as due and what is not, and telling scrolls and hoards as strings. */
-final class Checks {
+class Checks {
     private static int passed = 0;
     private static int failed = 0;
     private static List<String> wrong = new ArrayList<>();
 
     interface Test {
         void run() throws Exception;
-    }
-
-    private Checks() {
     }
 
     /** Runs one test; what it finds wrong is printed under its name. */
@@ -109,7 +106,8 @@ final class Checks {
 
     static String text(DragonRing x) {
         StringBuilder all = new StringBuilder();
-        for (int i = 0; i < x.length(); i++) all.append((char) x.codeAt(i));
+        int length = x.length();
+        for (int i = 0; i < length; i++) all.append((char) x.codeAt(i));
         return all.toString();
     }
 
@@ -122,10 +120,12 @@ final class Checks {
         } catch (IllegalStateException e) {
             // no mark is shown
         }
-        for (int i = 0; i <= x.length(); i++) {
+        int length = x.length();
+        int point = x.point();
+        for (int i = 0; i <= length; i++) {
             if (i == mark) all.append('^');
-            if (i == x.point()) all.append('|');
-            if (i < x.length()) all.append((char) x.codeAt(i));
+            if (i == point) all.append('|');
+            if (i < length) all.append((char) x.codeAt(i));
         }
         return all.toString();
     }
@@ -136,7 +136,8 @@ final class Checks {
         for (int i = 0; i < x.hoards(); i++) {
             if (i > 0) all.append(' ');
             if (i == x.nextHoard()) all.append('>');
-            for (int k = 0; k < x.lengthOf(i); k++) all.append((char) x.codeIn(i, k));
+            int length = x.lengthOf(i);
+            for (int k = 0; k < length; k++) all.append((char) x.codeIn(i, k));
         }
         return all.toString();
     }

@@ -8,8 +8,11 @@ import java.util.List;
  * beside it: each answer, each exception and each digest has to be the same.
  */
 public final class RunTests {
-    private static final int RUNS = 240;
+    private static final int RUNS = 480;
+    /** An object is used for so many calls at the most: what later ones answer is free. */
     private static final int CALLS = 512;
+    /** What one step calls at the most: to clear and to fill the buffer, a method, and the digest. */
+    private static final int STEP = 63;
     private static final String LETTERS = "fbFBaemxwWkrcyptusgn_";
     private static final String SIGNS = "abcxyzABZ019 \n\n-  ";
 
@@ -51,14 +54,16 @@ public final class RunTests {
         Model model = new Model();
         String[] favourites = FAVOURITES[number % FAVOURITES.length];
         List<String> last = new ArrayList<>();
-        for (int i = 0; i < CALLS; i++) {
+        int calls = 0;
+        while (calls <= CALLS - STEP) {
             Method m = face.get(some(face.size()));
             if (some(3) > 0) m = named(face, favourites[some(favourites.length)]);
-            if (m.getName().equals("perform") && some(8) > 0) i += fill(x, model, last);
+            if (m.getName().equals("perform") && some(8) > 0) calls += fill(x, model, last);
             Object[] arguments = argumentsOf(m, model);
             Method same = Model.class.getDeclaredMethod(m.getName(), m.getParameterTypes());
             Object want = answer(model, same, arguments);
             Object got = answer(x, m, arguments);
+            calls += 2;
             last.add(m.getName() + java.util.Arrays.toString(arguments) + " = " + got);
             boolean equal = got.equals(want) && x.digest() == model.digest();
             if (!equal) {
